@@ -139,23 +139,23 @@ public final class PromisesTest {
         StampVendor x = machine(10, 5, 20, 7, 30, 9);
         dueThrow("-1", NO_SUCH_STAMP, x, () -> x.withdraw(-1));
         dueThrow("3 of 3", NO_SUCH_STAMP, x, () -> x.withdraw(3));
-        x.vend(30);
+        x.vend(60);
         x.vend(20);
         due("stock of the second", 6, () -> x.withdraw(1));
         due("stamps", 2, x::stamps);
         due("number 0 stays", 10, () -> x.valueOf(0));
         due("the one behind has number 1", 30, () -> x.valueOf(1));
-        due("its stock", 8, () -> x.stockOf(1));
-        due("its vended", 1, () -> x.vendedOf(1));
+        due("its stock", 7, () -> x.stockOf(1));
+        due("its vended", 2, () -> x.vendedOf(1));
         due("letters stay", 2, x::letters);
-        due("taken stays", 50, x::taken);
+        due("taken stays", 80, x::taken);
         due("no number 2", NO_SUCH_STAMP, () -> x.valueOf(2));
         due("its value is gone", false, () -> x.canPay(20) && x.stockOf(0) < 2);
         x.addStamp(20, 1);
         due("a new one with the value was not vended", 0, () -> x.vendedOf(2));
         due("the last", 1, () -> x.withdraw(2));
         due("the first", 5, () -> x.withdraw(0));
-        due("the only one", 8, () -> x.withdraw(0));
+        due("the only one", 7, () -> x.withdraw(0));
         due("none left", NO_SUCH_STAMP, () -> x.withdraw(0));
         StampVendor eight = machineOfEight();
         due("the last of 8", 3, () -> eight.withdraw(7));
@@ -222,7 +222,10 @@ public final class PromisesTest {
         due("59s and one 60 for 296", 0, () -> great.vend(296));
         due("one 60 more than 300", BAD_STATE, () -> great.vend(300));
         due("the sum may be over 300", 54, () -> machine(59, 6).vend(300));
-        due("as far as 359", 59, () -> machineWithRoom(12, 60, 12, 55, 0).vend(241));
+        due("59 more", 59, () -> machine(60, 5).vend(241));
+        StampVendor most = machine(5, 9, 7, 9, 9, 9);
+        due("23 = 9 + 9 + 5 before 9 + 7 + 7", 0, () -> most.vend(23));
+        due("two 9s", 2, () -> most.vendedOf(2));
     }
 
     /** What a letter gets: the least sum, then the fewest stamps, then the most of the greatest values. */
@@ -451,6 +454,12 @@ public final class PromisesTest {
         due("the order is no matter", 3, () -> machine(2, 0, 3, 0).ways(12));
         due("room 4: not 3 + 3 + 2 + 2 + 2", 4, () -> machineWithRoom(4, 2, 0, 3, 0, 6, 0).ways(12));
         due("no way", 0, () -> machine(2, 0).ways(3));
+        due("less room than at the call before", 1, () -> {
+            StampVendor y = machine(1, 0, 5, 0);
+            y.ways(6);
+            y.setRoom(2);
+            return y.ways(6);
+        });
         due("300", 1, () -> machine(50, 0).ways(300));
         due("without stamps", 0, () -> new StampVendor().ways(1));
         for (int postage : BAD_POSTAGES) {
@@ -542,6 +551,8 @@ public final class PromisesTest {
         due("the 5", 1, () -> machine(1, 4, 5, 0).bestToPrint());
         due("no reach at all", 0, () -> machine(5, 1, 7, 0).bestToPrint());
         due("of several the smallest number", 0, () -> machineWithRoom(1, 1, 1, 2, 1).bestToPrint());
+        due("many more of the 3 go farther than of the 4", 1, () -> machine(4, 1, 3, 0, 1, 3).bestToPrint());
+        due("each is printed by itself", 1, () -> machineWithRoom(3, 1, 2, 3, 1, 7, 0).bestToPrint());
         due("99 in stock", 0, () -> machine(1, 99).bestToPrint());
         StampVendor x = machine(1, 4, 5, 0, 12, 98);
         String before = seen(x);
