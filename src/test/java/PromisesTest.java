@@ -1,15 +1,7 @@
-import java.util.function.Supplier;
-
 /** Each promise of the document by itself: ordinary inputs, the edges, and wrong inputs. */
-public final class PromisesTest {
-    private static final String BAD_ARGUMENT = "IllegalArgumentException";
-    private static final String BAD_STATE = "IllegalStateException";
-    private static final String NO_SUCH_STAMP = "IndexOutOfBoundsException";
+public final class PromisesTest extends Machines {
     private static final int[] BAD_POSTAGES = {0, -1, 301, Integer.MIN_VALUE, Integer.MAX_VALUE};
     private static final int[] BAD_ROOMS = {0, -1, 13, Integer.MIN_VALUE, Integer.MAX_VALUE};
-    private static final int[] EIGHT_VALUES = {60, 1, 7, 30, 59, 2, 45, 12};
-
-    private static int promise;
 
     private PromisesTest() {
     }
@@ -47,53 +39,8 @@ public final class PromisesTest {
         Check.finish("PromisesTest");
     }
 
-    /** A machine with these values and stocks: value, stock, value, stock, .. */
-    private static StampVendor machine(int... valuesAndStocks) {
-        StampVendor x = new StampVendor();
-        for (int i = 0; i < valuesAndStocks.length; i += 2) {
-            x.addStamp(valuesAndStocks[i], valuesAndStocks[i + 1]);
-        }
-        return x;
-    }
-
-    private static StampVendor machineWithRoom(int room, int... valuesAndStocks) {
-        StampVendor x = machine(valuesAndStocks);
-        x.setRoom(room);
-        return x;
-    }
-
-    private static StampVendor machineOfEight() {
-        StampVendor x = new StampVendor();
-        for (int value : EIGHT_VALUES) {
-            x.addStamp(value, 3);
-        }
-        return x;
-    }
-
-    private static void due(String what, Object want, Supplier<Object> call) {
-        Check.dueAnswer("promise " + promise + ": " + what, want, call);
-    }
-
-    /** All that can be seen of a machine. */
-    private static String seen(StampVendor x) {
-        StringBuilder text = new StringBuilder();
-        text.append(x.digest()).append(' ').append(x.stamps()).append(' ').append(x.room()).append(' ');
-        text.append(x.letters()).append(' ').append(x.taken()).append(' ').append(x.overpaid());
-        for (int i = 0; i < x.stamps(); i++) {
-            text.append(" [").append(x.valueOf(i)).append(' ').append(x.stockOf(i));
-            text.append(' ').append(x.vendedOf(i)).append(']');
-        }
-        return text.toString();
-    }
-
-    private static void dueThrow(String what, String exception, StampVendor x, Supplier<Object> call) {
-        String before = seen(x);
-        due(what, exception, call);
-        due(what + " changes nothing", before, () -> seen(x));
-    }
-
     private static void promise1() {
-        promise = 1;
+        about("promise 1");
         StampVendor x = new StampVendor();
         due("stamps", 0, x::stamps);
         due("room", 6, x::room);
@@ -108,7 +55,7 @@ public final class PromisesTest {
     }
 
     private static void promise2() {
-        promise = 2;
+        about("promise 2");
         StampVendor x = new StampVendor();
         dueThrow("value 0", BAD_ARGUMENT, x, () -> x.addStamp(0, 1));
         dueThrow("value 61", BAD_ARGUMENT, x, () -> x.addStamp(61, 1));
@@ -135,7 +82,7 @@ public final class PromisesTest {
     }
 
     private static void promise3() {
-        promise = 3;
+        about("promise 3");
         StampVendor x = machine(10, 5, 20, 7, 30, 9);
         dueThrow("-1", NO_SUCH_STAMP, x, () -> x.withdraw(-1));
         dueThrow("3 of 3", NO_SUCH_STAMP, x, () -> x.withdraw(3));
@@ -164,7 +111,7 @@ public final class PromisesTest {
     }
 
     private static void promise4() {
-        promise = 4;
+        about("promise 4");
         StampVendor x = machine(10, 0, 20, 90);
         due("1 more", 1, () -> x.print(0, 1));
         due("its stock", 1, () -> x.stockOf(0));
@@ -184,7 +131,7 @@ public final class PromisesTest {
     }
 
     private static void promise5() {
-        promise = 5;
+        about("promise 5");
         StampVendor x = machine(10, 12);
         due("1", 6, () -> x.setRoom(1));
         due("room", 1, x::room);
@@ -197,7 +144,7 @@ public final class PromisesTest {
     }
 
     private static void promise6() {
-        promise = 6;
+        about("promise 6");
         StampVendor x = machine(1, 4, 5, 3, 12, 2);
         for (int postage : BAD_POSTAGES) {
             dueThrow("postage " + postage, BAD_ARGUMENT, x, () -> x.vend(postage));
@@ -230,7 +177,7 @@ public final class PromisesTest {
 
     /** What a letter gets: the least sum, then the fewest stamps, then the most of the greatest values. */
     private static void promise6Choice() {
-        promise = 6;
+        about("promise 6");
         StampVendor sum = machine(10, 1, 3, 4);
         due("the least sum goes before the fewest stamps", 0, () -> sum.vend(9));
         due("three 3s", 1, () -> sum.stockOf(1));
@@ -261,10 +208,10 @@ public final class PromisesTest {
     }
 
     private static void promises7And8() {
-        promise = 7;
+        about("promise 7");
         due("eight", 8, () -> machineOfEight().stamps());
         due("three", 3, () -> machine(1, 0, 2, 0, 3, 0).stamps());
-        promise = 8;
+        about("promise 8");
         due("at first", 6, () -> machine(1, 1).room());
         due("then", 9, () -> machineWithRoom(9).room());
     }
@@ -273,28 +220,28 @@ public final class PromisesTest {
         StampVendor x = machineOfEight();
         for (int i = 0; i < 8; i++) {
             int stamp = i;
-            promise = 9;
+            about("promise 9");
             due("value of " + i, EIGHT_VALUES[i], () -> x.valueOf(stamp));
-            promise = 10;
+            about("promise 10");
             due("stock of " + i, 3, () -> x.stockOf(stamp));
-            promise = 11;
+            about("promise 11");
             due("vended of " + i, 0, () -> x.vendedOf(stamp));
         }
         x.vend(120);
-        promise = 10;
+        about("promise 10");
         due("stock after vending", 1, () -> x.stockOf(0));
-        promise = 11;
+        about("promise 11");
         due("vended after vending", 2, () -> x.vendedOf(0));
         x.vend(60);
         x.print(0, 50);
         due("vended after more of it and a print", 3, () -> x.vendedOf(0));
         StampVendor few = machine(10, 1, 20, 2);
         for (int bad : new int[] {-1, 2, 8, Integer.MIN_VALUE, Integer.MAX_VALUE}) {
-            promise = 9;
+            about("promise 9");
             dueThrow("value of " + bad, NO_SUCH_STAMP, few, () -> few.valueOf(bad));
-            promise = 10;
+            about("promise 10");
             dueThrow("stock of " + bad, NO_SUCH_STAMP, few, () -> few.stockOf(bad));
-            promise = 11;
+            about("promise 11");
             dueThrow("vended of " + bad, NO_SUCH_STAMP, few, () -> few.vendedOf(bad));
         }
     }
@@ -303,31 +250,31 @@ public final class PromisesTest {
         StampVendor x = machine(10, 3, 4, 2);
         x.vend(7);
         x.vend(19);
-        promise = 12;
+        about("promise 12");
         due("letters", 2, x::letters);
-        promise = 13;
+        about("promise 13");
         due("8 + 20", 28, x::taken);
-        promise = 14;
+        about("promise 14");
         due("1 + 1", 2, x::overpaid);
         x.vend(1);
         Check.answer(() -> x.vend(1));
-        promise = 12;
+        about("promise 12");
         due("one more, and one that failed", 3, x::letters);
-        promise = 13;
+        about("promise 13");
         due("10 more", 38, x::taken);
-        promise = 14;
+        about("promise 14");
         due("9 more", 11, x::overpaid);
         x.withdraw(0);
-        promise = 13;
+        about("promise 13");
         due("a withdrawn stamp was taken still", 38, x::taken);
-        promise = 14;
+        about("promise 14");
         due("and overpaid still", 11, x::overpaid);
-        promise = 12;
+        about("promise 12");
         due("and vended for still", 3, x::letters);
     }
 
     private static void promise15() {
-        promise = 15;
+        about("promise 15");
         due("without stamps", -1, () -> new StampVendor().scarcest());
         due("the fewest", 1, () -> machine(10, 5, 20, 3, 30, 4).scarcest());
         due("the smallest number of several", 1, () -> machine(10, 5, 20, 3, 30, 3).scarcest());
@@ -336,7 +283,7 @@ public final class PromisesTest {
     }
 
     private static void promise16() {
-        promise = 16;
+        about("promise 16");
         StampVendor x = machine(4, 2, 10, 1);
         due("4", true, () -> x.canPay(4));
         due("8", true, () -> x.canPay(8));
@@ -353,7 +300,7 @@ public final class PromisesTest {
     }
 
     private static void promise17() {
-        promise = 17;
+        about("promise 17");
         StampVendor x = machine(4, 2, 10, 1);
         due("exactly", 0, () -> x.overpay(14));
         due("by the least", 1, () -> x.overpay(9));
@@ -370,7 +317,7 @@ public final class PromisesTest {
     }
 
     private static void promise18() {
-        promise = 18;
+        about("promise 18");
         StampVendor x = machine(3, 9, 4, 9, 6, 1);
         due("12 = 4 + 4 + 4", 3, () -> x.stampsFor(12));
         due("10 = 6 + 4", 2, () -> x.stampsFor(10));
@@ -384,7 +331,7 @@ public final class PromisesTest {
     }
 
     private static void promise19() {
-        promise = 19;
+        about("promise 19");
         StampVendor x = machine(5, 9, 7, 9, 9, 9);
         due("14: 5s", 1, () -> x.ofStampFor(14, 0));
         due("14: 7s", 0, () -> x.ofStampFor(14, 1));
@@ -404,7 +351,7 @@ public final class PromisesTest {
     }
 
     private static void promise20() {
-        promise = 20;
+        about("promise 20");
         due("without stamps", 0, () -> new StampVendor().reachNow());
         due("no 1", 0, () -> machine(2, 9, 3, 9).reachNow());
         due("by the stock", 32, () -> machine(1, 4, 5, 3, 12, 2).reachNow());
@@ -416,7 +363,7 @@ public final class PromisesTest {
     }
 
     private static void promise21() {
-        promise = 21;
+        about("promise 21");
         due("without stamps", 0, () -> new StampVendor().most());
         due("all, if there is room", 40, () -> machine(1, 4, 5, 3, 12, 2).most());
         due("the greatest values first", 34, () -> machineWithRoom(3, 5, 3, 12, 2, 10, 1).most());
@@ -429,7 +376,7 @@ public final class PromisesTest {
     }
 
     private static void promise22() {
-        promise = 22;
+        about("promise 22");
         StampVendor x = machine(1, 0, 5, 0, 12, 0);
         due("23 = 12 + 5 + 5 + 1", 4, () -> x.fewest(23));
         due("15 = 5 + 5 + 5", 3, () -> x.fewest(15));
@@ -446,7 +393,7 @@ public final class PromisesTest {
     }
 
     private static void promise23() {
-        promise = 23;
+        about("promise 23");
         StampVendor x = machineWithRoom(12, 1, 0, 5, 0, 12, 0);
         due("12: 12, 5 + 5 + 1 + 1, 5 and seven 1s, twelve 1s", 4, () -> x.ways(12));
         due("4", 1, () -> x.ways(4));
@@ -468,7 +415,7 @@ public final class PromisesTest {
     }
 
     private static void promise24() {
-        promise = 24;
+        about("promise 24");
         due("without stamps", 0, () -> new StampVendor().reach());
         due("no 1", 0, () -> machine(2, 9).reach());
         due("1, 5 and 12", 44, () -> machine(1, 4, 5, 3, 12, 2).reach());
@@ -477,7 +424,7 @@ public final class PromisesTest {
     }
 
     private static void promise25() {
-        promise = 25;
+        about("promise 25");
         StampVendor x = machine(1, 4, 5, 3, 12, 2);
         due("from 1", 45, () -> x.gapFrom(1));
         due("from the gap itself", 45, () -> x.gapFrom(45));
@@ -492,7 +439,7 @@ public final class PromisesTest {
     }
 
     private static void promise26() {
-        promise = 26;
+        about("promise 26");
         StampVendor x = machine(1, 4, 5, 3, 12, 2);
         due("to 44", 0, () -> x.gapsTo(44));
         due("to 45", 1, () -> x.gapsTo(45));
@@ -506,7 +453,7 @@ public final class PromisesTest {
     }
 
     private static void promise27() {
-        promise = 27;
+        about("promise 27");
         StampVendor x = machine(10, 3, 4, 4);
         due("8: two 4s twice, then a 10 thrice", 5, () -> x.lettersOf(8));
         due("nothing is changed", 4, () -> x.stockOf(1));
@@ -526,7 +473,7 @@ public final class PromisesTest {
     }
 
     private static void promise28() {
-        promise = 28;
+        about("promise 28");
         due("without stamps: 1", 1, () -> new StampVendor().bestValue());
         due("beside 1, room 2: 1, 2, 3, 4", 2, () -> machineWithRoom(2, 1, 0).bestValue());
         due("beside 1, room 3: 1 to 7", 3, () -> machineWithRoom(3, 1, 0).bestValue());
@@ -545,7 +492,7 @@ public final class PromisesTest {
     }
 
     private static void promise29() {
-        promise = 29;
+        about("promise 29");
         due("without stamps", -1, () -> new StampVendor().bestToPrint());
         due("the 1", 1, () -> machine(5, 1, 1, 0).bestToPrint());
         due("the 5", 1, () -> machine(1, 4, 5, 0).bestToPrint());
@@ -562,7 +509,7 @@ public final class PromisesTest {
     }
 
     private static void promise30() {
-        promise = 30;
+        about("promise 30");
         StampVendor x = machine(1, 4, 5, 3, 12, 2);
         due("room 1", 1, () -> x.reachWithRoom(1));
         due("room 6", 44, () -> x.reachWithRoom(6));
@@ -576,7 +523,7 @@ public final class PromisesTest {
     }
 
     private static void promise31() {
-        promise = 31;
+        about("promise 31");
         due("without stamps", 0.0, () -> new StampVendor().meanValue());
         due("one", 7.0, () -> machine(7, 0).meanValue());
         due("the stock is no matter", 5.5, () -> machine(1, 99, 10, 1).meanValue());
@@ -585,7 +532,7 @@ public final class PromisesTest {
     }
 
     private static void promise32() {
-        promise = 32;
+        about("promise 32");
         due("a new one", digestByFace(new StampVendor()), () -> new StampVendor().digest());
         StampVendor x = machine(10, 3, 4, 4, 35, 9);
         x.vend(9);
@@ -616,7 +563,7 @@ public final class PromisesTest {
     }
 
     private static void questionsChangeNothing() {
-        promise = 0;
+        about("all promises");
         StampVendor x = machine(1, 4, 5, 3, 12, 2);
         x.vend(22);
         String before = seen(x);
